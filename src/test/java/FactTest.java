@@ -12,6 +12,7 @@ public final class FactTest {
         atMost250();
         spans();
         spansOverlapping();
+        spansOfTenBanks();
         quarrelsOfOne();
         quarrelsOfMany();
         Check.end("FactTest");
@@ -257,6 +258,25 @@ public final class FactTest {
         span(x, 12, 100, 100);
         span(x, 13, 300, 300);
         Check.same("no quarrel", x.quarrel(0, 0), 0);
+    }
+
+    /** Twenty ends of BANKS, all on days of their own, and pay of all KINDS between them. */
+    private static void spansOfTenBanks() {
+        RestPay x = withWorkers(1);
+        for (int b = 0; b < 10; b++) {
+            x.lost(0, 10 * b + 3);
+            x.pay(0, 10 * b + 4, b % 5, 1000 + b);
+            x.pay(0, 10 * b + 5, 5, 7);
+            Check.same("bank", x.bank(0, 10 * b + 2, 10 * b + 6, 2000 + b + b) >= 0, true);
+        }
+        Check.same("no quarrel", x.quarrel(0, 0), 0);
+        for (int b = 0; b < 10; b++) {
+            span(x, 10 * b + 3, 1000 + b, 1000 + b);
+        }
+        x.lost(0, 93);
+        x.lost(0, 94);
+        span(x, 93, 0, 2018);
+        span(x, 94, 0, 2018);
     }
 
     private static void quarrelsOfOne() {

@@ -8,6 +8,8 @@ public final class OwedTest {
         oweds();
         barred();
         wrongQuestions();
+        otherFacts();
+        notTold();
         chains();
         chainsByNumber();
         chainsCut();
@@ -174,6 +176,61 @@ public final class OwedTest {
         Check.same("link -1", x.link(0, 2, -1, false, 0), -1);
         Check.same("link 0", x.link(0, 2, 0, false, 0), 1);
         Check.same("link 1", x.link(0, 2, 1, false, 0), -1);
+    }
+
+    /** Only a HOLIDAY has an AVERAGE, only a CLAIM a CHAIN. */
+    private static void otherFacts() {
+        RestPay x = withWorker("counts base 100 when 1;", 1);
+        x.pay(0, 0, 0, 500);
+        x.lost(0, 1);
+        x.bank(0, 2, 3, 0);
+        x.holiday(0, 7, 5, 0);
+        x.settle(0, 50, 51);
+        x.claim(0, 50);
+        for (int fact = 0; fact < 6; fact++) {
+            Check.same("a chain first", x.chain(0, 5, false, 0), 1);
+            Check.same("average of " + fact, x.average(0, fact, false, 0), fact == 3 ? 500 : -1);
+            Check.same("weeks of " + fact, x.weeks(0, fact, false, 0), fact == 3 ? 1 : -1);
+            Check.same("owed of " + fact, x.owed(0, fact, false, 0), fact == 3 ? 500 : -1);
+            Check.same("a chain first", x.chain(0, 5, false, 0), 1);
+            Check.same("link of " + fact, x.link(0, fact, 0, false, 0), fact == 5 ? 3 : -1);
+            Check.same("chain of " + fact, x.chain(0, fact, false, 0), fact == 5 ? 1 : -1);
+            Check.same("due of " + fact, x.due(0, fact, false, 0), fact == 5 ? 500 : -1);
+        }
+    }
+
+    /** The numbers of an ACT that does not tell them. */
+    private static void notTold() {
+        RestPay x = withWorker("counts base 100 when 1; empty when base = 0;", 2);
+        x.pay(0, 0, 0, 1);
+        x.holiday(0, 100, 5, 0);
+        x.holiday(0, 190, 5, 0);
+        x.holiday(0, 727, 5, 0);
+        x.claim(0, 280);
+        x.claim(0, 281);
+        x.claim(0, 817);
+        Check.same("5 days, OWED of 1", x.owed(0, 1, false, 0), 1);
+        Check.same("104 weeks back", x.weeks(0, 3, false, 0), 1);
+        Check.same("90 days late, 90 days ahead", x.chain(0, 4, false, 0), 2);
+        Check.same("91 days late", x.chain(0, 5, false, 0), 0);
+        Check.same("two links", x.due(0, 4, false, 0), 2);
+        RestPay y = withWorker("counts base 100 when 1; weeks 1;", 2);
+        y.pay(0, 0, 0, 9999);
+        y.holiday(0, 7, 20, 0);
+        y.claim(0, 97);
+        Check.same("no interest", y.due(0, 2, false, 0), 39996);
+        Check.same("no interest", y.payout(0, 0, false, 0), 39996);
+        Check.same("the last alone", x.chain(0, 6, false, 0), 1);
+        x.holiday(0, 9, 5, 0);
+        Check.same("91 days ahead", x.chain(0, 4, false, 0), 2);
+        x.holiday(0, 10, 5, 0);
+        Check.same("no stop", x.chain(0, 4, false, 0), 4);
+        Check.act(x, 1, "counts base 100 when 1; empty when base = 0; back 103; stop 9999;", 4);
+        Check.same("103 weeks back", x.weeks(1, 3, false, 0), 1);
+        Check.act(x, 1, "counts base 100 when 1; empty when base = 0; back 102;", 3);
+        Check.same("102 weeks back", x.weeks(1, 3, false, 0), 0);
+        Check.act(x, 1, "interest 1;", 1);
+        Check.same("an act without counts", x.owed(1, 1, false, 0), 0);
     }
 
     private static void chains() {

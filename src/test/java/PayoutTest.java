@@ -96,6 +96,16 @@ public final class PayoutTest {
         Check.same("base alone", x.marks(0, 0, false, 0), 1);
         x.pay(0, 2, 1, 1);
         Check.same("and overtime", x.marks(0, 0, false, 0), 3);
+        RestPay y = new RestPay();
+        y.worker(0, false);
+        Check.act(y, 0, "counts base 0 when 1; counts bonus 100 when 1; weeks 1;", 3);
+        y.pay(0, 0, 0, 100);
+        y.pay(0, 0, 4, 1);
+        y.holiday(0, 7, 5, 0);
+        y.claim(0, 7);
+        Check.same("a kind by 0", y.marks(0, 0, false, 0), 16);
+        Check.same("a payout of 1", y.payout(0, 0, false, 0), 1);
+        Check.same("a test that settles 1", y.tests(0, 1, false, 0), 1);
         // a holiday that is in no chain has weeks that are in no average
         x.pay(0, 9, 3, 100);
         x.holiday(0, 80, 5, 0);

@@ -92,6 +92,11 @@ public final class TextTest {
         Check.fault("weeks 00003;", 1, 6);
         Check.fault("weeks 3x;", 1, 6);
         Check.fault("weeks 3X;", 1, 7);
+        Check.fault("weeks 3z;", 1, 6);
+        Check.fault("weeks 3a", 1, 6);
+        Check.fault(Check.times(" ", 899) + "&", 1, 899);
+        Check.fault(Check.times("a", 900), 1, 0);
+        Check.fault(Check.times("9", 900), 1, 0);
         Check.fault("empty when 1or 2;", 1, 11);
         Check.fault("interests 3;", 1, 0);
         Check.fault("empty when overtimes;", 1, 11);
@@ -134,8 +139,18 @@ public final class TextTest {
         Check.fault(";", 2, 0);
         Check.fault("3;", 2, 0);
         Check.fault("week 3;", 2, 0);
+        Check.fault("when 0;", 2, 0);
+        Check.fault("or 1;", 2, 0);
+        Check.fault("base 1;", 2, 0);
         Check.fault("weeks 3;;", 2, 8);
         Check.fault("weeks base;", 2, 6);
+        Check.fault("xounts base 1 when 1;", 2, 0);
+        Check.fault("countx base 1 when 1;", 2, 0);
+        Check.fault("count base 1 when 1;", 2, 0);
+        Check.fault("empty when zero;", 2, 11);
+        Check.fault("empty when basez;", 2, 11);
+        Check.fault("empty when overtimz;", 2, 11);
+        Check.fault(Check.times(";", 900), 2, 0);
         // a not takes the whole relation, and an and binds closer than an or
         RestPay x = new RestPay();
         Check.act(x, 0, "empty when not 1 = 2 and 1 or not not 0;", 1);
