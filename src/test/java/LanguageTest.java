@@ -37,6 +37,7 @@ public final class LanguageTest {
             Check.holds("sign " + (int) c + " at " + i, c == '\n' || c >= 32 && c < 127);
         }
         face();
+        faceOfDocument();
         members(RestPay.class);
         for (Class<?> inside : RestPay.class.getDeclaredClasses()) {
             Check.holds(inside + " is static", Modifier.isStatic(inside.getModifiers()));
@@ -81,6 +82,20 @@ public final class LanguageTest {
         Check.holds("one constructor", makers.length == 1 && makers[0].getParameterCount() == 0
                 && Modifier.isPublic(makers[0].getModifiers()));
         Check.holds("public and final", Modifier.isPublic(RestPay.class.getModifiers()) && Modifier.isFinal(RestPay.class.getModifiers()));
+    }
+
+    /** "The public face" of the document names the same methods and the one constant. */
+    private static void faceOfDocument() throws IOException {
+        String page = Files.readString(Path.of("../shared/DOC.md"));
+        String block = page.substring(page.indexOf("## The public face"), page.indexOf("## Terms"));
+        Set<String> told = new TreeSet<>();
+        Matcher lines = Pattern.compile("public (\\w+ \\w+)\\(([^)]*)\\);").matcher(block);
+        while (lines.find()) {
+            told.add((lines.group(1) + " " + lines.group(2).replaceAll("(\\w+) \\w+(, )?", "$1 ")).trim());
+        }
+        Check.holds("the document's face is " + told, told.equals(new TreeSet<>(List.of(FACE))));
+        Check.holds("the document's constant", block.contains("public static final int NONE = " + RestPay.NONE + ";"));
+        Check.holds("the document's constructor", block.contains("public RestPay();"));
     }
 
     private static void members(Class<?> type) {
